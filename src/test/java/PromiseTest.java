@@ -208,6 +208,13 @@ public final class PromiseTest {
         fault("plain 10 100", -16, 3);
         fault("arts 10 1 0;", -15, 3);
         fault("law 1 1 4", -18, 3);
+        for (String kind : new String[] {"plain", "law", "arts", "theology"}) {
+            int at = kind.length();
+            fault(kind + " 9 99 3;fellow 1;fellow 1;fellow 1;fellow 1;", 5, 0);
+            fault(kind + " 10 99 3;", -11 - at, 3);
+            fault(kind + " 9 100 3;", -13 - at, 1);
+            fault(kind + " 9 99 4;", -16 - at, 3);
+        }
         fault("ask 99 10;", -17, 3);
         fault("bite 0;", -15, 3);
         fault("bite 21;", -15, 3);
@@ -691,6 +698,14 @@ public final class PromiseTest {
         for (int n = 3; n <= 6; n++) due(x.see(0, 0, 0, false), n);
         due(x.see(0, 0, 0, false), FULL);
         due(x.see(31, 0, 0, false), BAD);
+        // of two FELLOWS, the one who was seen
+        x = of("fellow 0;fellow 0;plain 1 20 1;damp 4;");
+        x.see(3, 1, 1, true);
+        due(x.kinds(0), 7);
+        x.see(3, 0, 1, false);
+        due(x.kinds(0), 7);
+        x.see(3, 0, 1, true);
+        due(x.kinds(0), 0);
         // DAYS are told from now on, whenever it is asked
         x = of("fellow 0;plain 1 20 0;damp 4;");
         x.see(3, 0, 1, true);
@@ -729,6 +744,23 @@ public final class PromiseTest {
         due(x.ask(0, 0), 61);
         x.alter(0, 2, 0);
         due(x.ask(0, 0), NONE);
+        // two are left, then all again: what was found for the two is not counted twice
+        x = of("fellow 0;plain 1 20 0;damp 4;");
+        x.see(6, 0, 1, true);
+        due(x.ask(0, 0), 80);
+        x.forget(0);
+        x.bite(20);
+        x.alter(0, 2, 19);
+        due(x.ask(0, 0), NONE);
+        // told apart up to the 30th DAY: by DAMP 1 a law or plain one loses 0, arts 1, theology 2
+        x = of("fellow 0;plain 1 34 0;damp 1;");
+        x.see(15, 0, 1, true);
+        due(x.kinds(0), 7);
+        due(x.ask(0, 0), 300);
+        due(x.ask(0, 1), 2);
+        x.alter(0, 2, 35);
+        due(x.ask(0, 0), 160);
+        due(x.ask(0, 1), 3);
     }
 
     private static void drift() {
