@@ -14,16 +14,6 @@ import java.util.regex.Pattern;
 
 /** That the class has the document's face and no other, and keeps to those rules of LANGUAGE.md that can be looked up. */
 public final class LanguageTest {
-    private static final String[] FACE = {
-        "int feed(int)", "int end(int)", "int text()", "int fault()", "int rule(int)", "int fellow(int,int)",
-        "int biscuit(int,int)", "int question(int,int)", "int knows(int)", "int alter(int,int,int)", "int diet(int,int)",
-        "int damp(int)", "int bite(int)", "int pose(int,int)", "int drop(int)", "int bake(int,int,int,int)",
-        "int days(int)", "int runs(int,int)", "int ahead(int,int)", "int lasts(int)", "int starves(int)",
-        "int need(int,int)", "int thrift(int,int)", "int heir(int,int)", "int swap(int)", "int wise(int,int)",
-        "int chew(int)", "long luck(int,int,int,int,int)", "long mean(int,int,int)", "int see(int,int,int,boolean)",
-        "int forget(int)", "int kinds(int)", "int subjects(int)", "int ask(int,int)", "int drift(int,int,int)",
-        "int keep(int)", "int back(int)", "int sheet(int,int,int)", "int lay(int,int,int)", "int read(int,int,int,int)",
-        "int torn()", "int count(int)"};
     private static final String[] BANNED = {
         "throw", "throws", "try", "catch", "finally", "synchronized", "assert", "import", "package", "Object", "Exception",
         "volatile", "transient", "native", "protected", "System.out", "Thread", "Random", "hashCode", "toString",
@@ -45,7 +35,19 @@ public final class LanguageTest {
         return s + ")";
     }
 
-    private static void face() {
+    private static String readDocument() throws java.io.IOException {
+        return Files.readString(Path.of("../shared/DOC.md"));
+    }
+
+    /** The methods of the document's face, as shape() tells them. */
+    private static Set<String> documentFace() throws java.io.IOException {
+        Set<String> all = new TreeSet<>();
+        Matcher m = Pattern.compile("(?m)^    public (\\w+ \\w+)\\((.*)\\);$").matcher(readDocument());
+        while (m.find()) all.add(m.group(1) + "(" + m.group(2).replaceAll("(\\w+) \\w+(, )?", "$1,").replaceAll(",$", "") + ")");
+        return all;
+    }
+
+    private static void face() throws java.io.IOException {
         int mods = BiscuitLore.class.getModifiers();
         expect(Modifier.isPublic(mods) && Modifier.isFinal(mods), "the class is not public and final");
         Set<String> open = new TreeSet<>();
@@ -59,7 +61,9 @@ public final class LanguageTest {
                 expect(Modifier.isPrivate(m.getModifiers()), "neither public nor private: " + shape(m));
             }
         }
-        expect(open.equals(new TreeSet<>(Arrays.asList(FACE))), "the face is not the document's: " + open);
+        Set<String> due = documentFace();
+        expect(due.size() == 42, "the document's face is not understood: " + due);
+        expect(open.equals(due), "the face is not the document's: " + open);
         Set<String> constants = new TreeSet<>();
         for (Field f : BiscuitLore.class.getDeclaredFields()) {
             if (Modifier.isPublic(f.getModifiers())) constants.add(f.getName());
@@ -105,6 +109,30 @@ public final class LanguageTest {
         }
     }
 
+    /** That what the document says ahead of some calls stands ahead of them, and that they stand in its order. */
+    private static void order() throws java.io.IOException {
+        String text = Files.readString(Path.of("src/main/java/BiscuitLore.java"));
+        Matcher m = Pattern.compile("Ahead of the calls (.*) the interface says: (---- .*)\\.").matcher(readDocument());
+        int at = 0;
+        int parts = 0;
+        while (m.find()) {
+            parts++;
+            at = placeBehind(text, at, "\n    // " + m.group(2) + "\n");
+            for (String call : m.group(1).replace("`", "").split(", ")) {
+                at = placeBehind(text, at, " " + call + "(");
+            }
+        }
+        expect(parts == 8, "the document's parts are not understood: " + parts);
+    }
+
+    private static int placeBehind(String text, int from, String words) {
+        boolean isCall = words.endsWith("(");
+        Matcher m = Pattern.compile((isCall ? "\n    public (int|long)" : "") + Pattern.quote(words)).matcher(text);
+        boolean found = m.find(from);
+        expect(found, "does not stand in the document's order: " + words.trim());
+        return found ? m.end() : from;
+    }
+
     private static void source() throws java.io.IOException {
         String text = Files.readString(Path.of("src/main/java/BiscuitLore.java"));
         for (char c : text.toCharArray()) expect(c == '\n' || c >= ' ' && c < 127, "a sign " + (int) c);
@@ -130,6 +158,7 @@ public final class LanguageTest {
     public static void main(String[] args) throws java.io.IOException {
         face();
         classesInside();
+        order();
         source();
         System.out.println(wrong == 0 ? "the rules are kept" : wrong + " rules are not kept");
         if (wrong != 0) System.exit(1);
